@@ -116,8 +116,7 @@ public final class FeeDocket {
     public int use(int right, int user) throws IndexOutOfBoundsException, IllegalArgumentException, IllegalStateException {
         Right used = existingRight(right);
         checkArgument(isWithin(user, 0, USERS - 1));
-        checkState(!used.stoodOn(now.today, now.today));
-        checkState(now.today <= used.lastDay && !used.hasBegun(user));
+        checkState(now.canUse(used, user));
         save();
         used.begin(user, now.today);
         return used.countUsers();
@@ -291,11 +290,11 @@ public final class FeeDocket {
 
     // The dropped state's row goes to the end, to be filled again: no call makes a state.
     private void dropOldest() {
-        State oldest = saved[0];
         for (int i = 1; i < saved.length; i++) {
+            State oldest = saved[i - 1];
             saved[i - 1] = saved[i];
+            saved[i] = oldest;
         }
-        saved[saved.length - 1] = oldest;
         savedCount = saved.length - 1;
     }
 
@@ -378,7 +377,7 @@ public final class FeeDocket {
         int firstWorkingDay(int day) {
             int working = day;
             // Six holidays and the weekends between them are far fewer than a year.
-            for (int i = 0; i < 366 && !isWorkingDay(working); i++) {
+            for (int i = 0; i < 366 && (working % 7 >= 5 || isHoliday(working)); i++) {
                 working++;
             }
             return working;
@@ -389,8 +388,8 @@ public final class FeeDocket {
             count = other.count;
         }
 
-        private boolean isWorkingDay(int day) {
-            return day % 7 < 5 && (count == 0 || find(Calendar.dateOf(day) % 10000) == NONE);
+        private boolean isHoliday(int day) {
+            return find(Calendar.dateOf(day) % 10000) != NONE;
         }
 
         private int find(int monthAndDay) {
@@ -697,6 +696,10 @@ public final class FeeDocket {
             }
             int yearAfterGrace = Calendar.monthsAfter(right.graceOf(right.nextYear()), 12);
             return today <= holidays.firstWorkingDay(yearAfterGrace);
+        }
+
+        boolean canUse(Right right, int user) {
+            return !right.stoodOn(today, today) && today <= right.lastDay && !right.hasBegun(user);
         }
 
         int surchargeToday(Right right, int year) {

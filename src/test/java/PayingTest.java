@@ -25,7 +25,9 @@ public final class PayingTest {
         docket.undo();
         docket.pass(1);
         Check.same("in the grace", docket.pay(0), 180);
+        Check.same("value(6)", docket.value(6), 60);
         docket.undo();
+        Check.same("undo", docket.value(6), 0);
         Dockets.passTo(docket, 547);
         Check.same("at the end of the grace", docket.pay(0), 180);
         docket.undo();
@@ -125,6 +127,7 @@ public final class PayingTest {
         Dockets.passTo(old, 366);
         for (int year = 1; year <= 19; year++) {
             Dockets.passTo(old, old.due(0, year, false));
+            Check.same("the years left", old.costs(4000), sumOfFees(year, Math.min(19, year + 10)));
             old.pay(0);
         }
         Check.same("no fee is left", old.costs(4000), 0);
@@ -134,6 +137,14 @@ public final class PayingTest {
         }
         Dockets.passTo(docket, 27758);
         Check.same("behind the last year", docket.costs(4000), 0);
+    }
+
+    private static int sumOfFees(int first, int last) {
+        int sum = 0;
+        for (int year = first; year <= last; year++) {
+            sum += 100 + 20 * year;
+        }
+        return sum;
     }
 
     // Promise 22

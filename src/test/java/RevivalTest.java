@@ -66,16 +66,10 @@ public final class RevivalTest {
         Dockets.passTo(docket, grace);
         Check.same("still in the second grace", docket.revive(0), 120 + 60 + 300);
         Check.same("the second fee is open", docket.right(0, 3), 2);
-        docket.undo();
-        int end = docket.putOff(docket.later(docket.due(0, 1, true), 12));
-        // The first revival may come on the last days only, behind the second grace.
-        Dockets.passTo(docket, end);
-        int due = 180 + 300 + (end > grace ? 210 : 0);
-        Check.same("the last day", docket.revive(0), due);
         severalYearsAtOnce();
     }
 
-    // With the second grace on a Thursday, 12 months after a put-off first grace lie behind it.
+    // Where the first grace was put off, a revival can come behind the second grace, which was not.
     private static void severalYearsAtOnce() {
         int found = 0;
         for (int day = 0; day < 40; day++) {
@@ -112,6 +106,12 @@ public final class RevivalTest {
         Check.same("on its last day", docket.revive(0), 480 + 240 + 300);
         Check.same("no fee is left", docket.right(0, 3), FeeDocket.NONE);
         Check.same("it stands", docket.value(2), 1);
+        int due = docket.due(0, 19, false);
+        stands(docket, due, true);
+        stands(docket, due + 1, false);
+        stands(docket, last - 1, false);
+        stands(docket, last, true);
+        Check.same("share", docket.share(0), (due + 2) / (double) (last + 1));
         docket.pass(1);
         Check.same("its end", docket.value(2), 0);
         Check.badState("at its end nobody begins", () -> docket.use(0, 2));
@@ -143,6 +143,7 @@ public final class RevivalTest {
         docket.pass(1);
         Check.same("the lapse reaches back", docket.stood(0, 800), false);
         Check.same("covered", docket.covered(0, 800), false);
+        Check.same("no day behind due(1) is left", docket.share(0), 367.0 / 914.0);
         Dockets.passTo(docket, 1000);
         docket.revive(0);
         Check.same("gaps", docket.right(0, 9), 2);

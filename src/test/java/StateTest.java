@@ -6,6 +6,8 @@ public final class StateTest {
         otherCallsDoNotSave();
         undoKeepsTheText();
         undoRestoresAll();
+        undoRestoresAnsweredValues();
+        undoRestoresHolidays();
         digestTakesAll();
         Check.done("StateTest");
     }
@@ -84,31 +86,79 @@ public final class StateTest {
     private static void undoRestoresAll() {
         FeeDocket docket = Dockets.withText("0-1-1;0-1-1s;");
         docket.parse();
-        Dockets.passTo(docket, 600);
+        // Three states are saved ahead of each call below, so that none is dropped.
+        docket.pass(601);
         docket.use(0, 1);
-        docket.pass(1);
+        long before = docket.digest();
         docket.revive(0);
+        docket.undo();
+        Check.same("a revival", docket.digest(), before);
+        docket.use(1, 9);
+        docket.undo();
+        Check.same("a user", docket.digest(), before);
         docket.setFees(1, 2, 3, 4);
         docket.undo();
-        double share = docket.share(0);
-        long before = docket.digest();
+        Check.same("fees", docket.digest(), before);
+    }
+
+    // All nineteen years are paid, some by revivals; then other rights take the rows.
+    private static void undoRestoresAnsweredValues() {
+        FeeDocket docket = Dockets.withText("49-1-1s;");
+        docket.pass(10);
+        docket.file(false);
+        for (int year = 1; year <= 19; year++) {
+            Dockets.passTo(docket, docket.due(0, year, true) + year % 2);
+            if (year % 2 == 1) {
+                docket.use(0, year / 2);
+                docket.pass(1);
+                docket.revive(0);
+            } else {
+                docket.pay(0);
+            }
+        }
+        String before = allOf(docket);
         docket.parse();
         docket.file(true);
-        docket.pass(900);
         docket.undo();
         docket.undo();
-        Check.same("undo()", docket.undo(), 1);
-        // Four calls were saved at most: before parse three of them were there, now one.
+        Check.same("all answers", allOf(docket), before);
+    }
+
+    private static String allOf(FeeDocket docket) {
+        StringBuilder all = new StringBuilder();
+        for (int what = 0; what <= 11; what++) {
+            all.append(docket.value(what)).append(' ');
+        }
+        for (int right = 0; right < docket.value(1); right++) {
+            for (int what = 0; what <= 12; what++) {
+                all.append(docket.right(right, what)).append(' ');
+            }
+            for (int user = 0; user <= 9; user++) {
+                all.append(docket.user(right, user)).append(' ');
+            }
+            for (int year = 1; year <= 19; year++) {
+                all.append(docket.due(right, year, false)).append(' ');
+                all.append(docket.due(right, year, true)).append(' ');
+            }
+            for (int day = 0; day <= docket.value(0); day++) {
+                all.append(docket.stood(right, day) ? 's' : '-').append(docket.covered(right, day) ? 'c' : '-');
+            }
+            all.append(docket.share(right)).append(' ');
+        }
+        return all.toString();
+    }
+
+    private static void undoRestoresHolidays() {
+        FeeDocket docket = new FeeDocket();
+        docket.holiday(1, 1);
+        docket.holiday(1, 2);
+        docket.holiday(1, 1);
+        Check.same("one is gone", docket.putOff(0), 0);
         docket.undo();
-        docket.revive(0);
-        docket.pass(1);
+        Check.same("both again", docket.putOff(0), 2);
         docket.undo();
-        Check.same("share", docket.share(0), share);
-        Check.same("gap", docket.stood(0, 600), false);
-        Check.same("protected", docket.user(0, 1), 2);
-        Check.same("the same rights", docket.right(0, 12), 480);
-        Check.same("the other right", docket.right(1, 7), 1);
-        Check.same("another count of states", docket.digest() == before, false);
+        Check.same("the first alone", docket.putOff(0), 1);
+        Check.same("the second works", docket.putOff(1), 1);
     }
 
     // Promise 28

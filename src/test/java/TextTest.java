@@ -6,6 +6,8 @@ public final class TextTest {
         textGrowsAndEmpties();
         rightsAreRead();
         readingBeginsAnew();
+        formerGapsDoNotStay();
+        anErrorDoesNotStay();
         errorsHaveTheirPlaces();
         wrongNumbersHaveTheirPlaces();
         rightsEndAtTen();
@@ -87,6 +89,37 @@ public final class TextTest {
         Check.same("no rights", docket.value(1), 0);
         Check.same("no accounts", docket.value(5), 0);
         Check.same("holidays stay", docket.value(4), 1);
+    }
+
+    // A right that was revived gives its number to one that pays in time.
+    private static void formerGapsDoNotStay() {
+        FeeDocket docket = Dockets.withRights(false);
+        Dockets.passTo(docket, 600);
+        docket.revive(0);
+        Dockets.write(docket, "0-1-1;");
+        docket.parse();
+        Check.same("today goes back", docket.value(0), 0);
+        Dockets.passTo(docket, 366);
+        docket.pay(0);
+        Dockets.passTo(docket, 700);
+        Check.same("it stood", docket.stood(0, 500), true);
+        Check.same("covered", docket.covered(0, 500), true);
+        Check.same("share", docket.share(0), 1.0);
+    }
+
+    private static void anErrorDoesNotStay() {
+        FeeDocket docket = Dockets.withText("x");
+        Check.same("an error", docket.parse(), -10);
+        Check.same("again", docket.parse(), -10);
+        docket.clearText();
+        Check.same("the empty text", docket.parse(), 0);
+        Dockets.write(docket, "1-1-1");
+        Check.same("another error", docket.parse(), -15);
+        docket.append(';');
+        Check.same("a right", docket.parse(), 1);
+        docket.append('-');
+        Check.same("an error", docket.parse(), -16);
+        Check.same("the right stays", docket.value(1), 1);
     }
 
     private static void errorsHaveTheirPlaces() {

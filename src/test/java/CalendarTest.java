@@ -15,11 +15,11 @@ public final class CalendarTest {
 
     // Promises 2 and 3: every day of the calendar, counted on from the first one.
     private static void datesAndDaysAgree() {
-        FeeDocket docket = new FeeDocket();
         int[] lengths = {31, 28, 31, 30, 31, 30, 31, 31, 30, 31, 30, 31};
         int number = 0;
         for (int year = 0; year <= 79; year++) {
             for (int month = 1; month <= 12; month++) {
+                FeeDocket docket = new FeeDocket();
                 int length = lengths[month - 1] + (month == 2 && year % 4 == 0 ? 1 : 0);
                 for (int day = 1; day <= length; day++) {
                     Check.same("date(" + number + ")", docket.date(number), 10000 * year + 100 * month + day);
@@ -65,14 +65,15 @@ public final class CalendarTest {
         Check.same("January of the next year", docket.date(docket.later(docket.day(7, 6, 15), 7)), 80115);
         Check.same("the farthest day", docket.date(docket.later(18262, 300)), 741231);
         for (int day = 0; day <= 18262; day += 13) {
-            int date = docket.date(day);
+            FeeDocket other = new FeeDocket();
+            int date = other.date(day);
             int months = day % 301;
             int far = date / 10000 * 12 + date / 100 % 100 - 1 + months;
-            int answer = docket.date(docket.later(day, months));
+            int answer = other.date(other.later(day, months));
             Check.same("month", answer / 10000 * 12 + answer / 100 % 100 - 1, far);
             boolean isShorter = answer % 100 < date % 100;
             Check.same("day of the month", isShorter || answer % 100 == date % 100, true);
-            Check.same("the last day", !isShorter || docket.date(docket.later(day, months) + 1) % 100 == 1, true);
+            Check.same("the last day", !isShorter || other.date(other.later(day, months) + 1) % 100 == 1, true);
         }
     }
 

@@ -1,5 +1,12 @@
+import java.util.function.Consumer;
+import java.util.function.Supplier;
+
 /** Counts the answers that are not as due; each test ends with done(). */
 final class Check {
+    static final String ARGUMENT = "IllegalArgumentException";
+    static final String STATE = "IllegalStateException";
+    static final String INDEX = "IndexOutOfBoundsException";
+
     interface Call {
         void run();
     }
@@ -36,15 +43,15 @@ final class Check {
     }
 
     static void badArgument(String call, Call body) {
-        same(call, outcome(body), "IllegalArgumentException");
+        same(call, outcome(body), ARGUMENT);
     }
 
     static void badState(String call, Call body) {
-        same(call, outcome(body), "IllegalStateException");
+        same(call, outcome(body), STATE);
     }
 
     static void badIndex(String call, Call body) {
-        same(call, outcome(body), "IndexOutOfBoundsException");
+        same(call, outcome(body), INDEX);
     }
 
     /** The call throws, changes nothing that the digest tells, and saves no state. */
@@ -52,6 +59,13 @@ final class Check {
         long before = docket.digest();
         same(call + " is refused", !outcome(body).isEmpty(), true);
         same("digest behind " + call, docket.digest(), before);
+    }
+
+    /** The call throws this exception, and its docket tells the same as one that it was not called on. */
+    static void refused(String call, String exception, Supplier<FeeDocket> made, Consumer<FeeDocket> body) {
+        FeeDocket touched = made.get();
+        same(call, outcome(() -> body.accept(touched)), exception);
+        same("the docket behind " + call, Picture.of(touched), Picture.of(made.get()));
     }
 
     static void done(String test) {

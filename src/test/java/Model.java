@@ -8,7 +8,7 @@ import java.util.TreeSet;
 
 /**
  * A second docket, made day by day from the document's words, to compare the program with.
- * It passes each day singly, keeps what stands as events, and marks days instead of reckoning them.
+ * It passes each day singly, keeps what stands as events, and counts days instead of reckoning them.
  */
 final class Model {
     static final int[] DATES = new int[29220];
@@ -89,15 +89,9 @@ final class Model {
 
     static int months(int day, int months) {
         int date = DATES[day];
-        int month = date / 100 % 100;
-        int year = date / 10000;
-        for (int i = 0; i < months; i++) {
-            month++;
-            if (month == 13) {
-                month = 1;
-                year++;
-            }
-        }
+        int total = 12 * (date / 10000) + date / 100 % 100 - 1 + months;
+        int month = total % 12 + 1;
+        int year = total / 12;
         int dayOfMonth = date % 100;
         while (!DAYS.containsKey(10000 * year + 100 * month + dayOfMonth)) {
             dayOfMonth--;
@@ -294,28 +288,35 @@ final class Model {
         return grace ? grace(right, year) : due(right, year);
     }
 
-    private boolean[] standing(Right right) {
-        boolean[] stands = new boolean[state.today + 1];
-        for (int day = 0; day <= state.today; day++) {
-            stands[day] = day >= right.filed && day <= right.last();
-        }
+    private boolean stands(Right right, int day) {
+        boolean stands = day >= right.filed && day <= right.last();
         for (int[] gap : right.gaps) {
-            for (int day = gap[0]; day <= gap[1]; day++) {
-                stands[day] = false;
-            }
+            stands = stands && (day < gap[0] || day > gap[1]);
         }
-        if (right.lapsed) {
-            for (int day = due(right, right.next()) + 1; day <= state.today; day++) {
-                stands[day] = false;
-            }
-        }
-        return stands;
+        return stands && !(right.lapsed && day > due(right, right.next()));
     }
 
     boolean stood(int number, int day) {
         Right right = get(number);
         bad(day < 0 || day > state.today);
-        return standing(right)[day];
+        return stands(right, day);
+    }
+
+    /** By the days of the payments alone: neither the gaps nor the lapse are asked. */
+    boolean covered(int number, int day) {
+        Right right = get(number);
+        bad(day < 0 || day > state.today);
+        int unpaid = right.next();
+        if (unpaid != -1 && state.today > grace(right, unpaid) && day > due(right, unpaid)) {
+            return false;
+        }
+        for (int year = 1; year <= right.payments.size(); year++) {
+            int payment = right.payments.get(year - 1);
+            if (payment > grace(right, year) && day > due(right, year) && day < payment) {
+                return false;
+            }
+        }
+        return day >= right.filed && day <= right.last();
     }
 
     int user(int number, int user) {
@@ -374,12 +375,12 @@ final class Model {
 
     double share(int number) {
         Right right = get(number);
-        boolean[] stands = standing(right);
+        int last = Math.min(right.last(), state.today);
         double stood = 0;
         double all = 0;
-        for (int day = right.filed; day <= state.today && day <= right.last(); day++) {
+        for (int day = right.filed; day <= last; day++) {
             all++;
-            stood += stands[day] ? 1 : 0;
+            stood += stands(right, day) ? 1 : 0;
         }
         return stood / all;
     }
@@ -503,7 +504,7 @@ final class Model {
             for (int user = 0; user <= 9; user++) {
                 hash = 31 * hash + user(i, user);
             }
-            hash = 31 * hash + (standing(get(i))[state.today] ? 1 : 0);
+            hash = 31 * hash + (stands(get(i), state.today) ? 1 : 0);
         }
         hash = 31 * hash + nextDue();
         return 31 * hash + saved.size();

@@ -2,8 +2,8 @@ import java.util.Random;
 
 /** Long runs of calls, drawn with fixed seeds, on the program and on the model: all answers agree. */
 public final class ModelTest {
-    private static final int RUNS = 300;
-    private static final int CALLS = 150;
+    private static final int RUNS = 1000;
+    private static final int CALLS = 512;
 
     private interface Call {
         Object answer();
@@ -13,6 +13,7 @@ public final class ModelTest {
     private final String run;
     private final FeeDocket docket = new FeeDocket();
     private final Model model = new Model();
+    private int calls = 0;
 
     private ModelTest(int seed) {
         random = new Random(seed);
@@ -30,9 +31,9 @@ public final class ModelTest {
         for (int i = random.nextInt(8); i > 0; i--) {
             holiday();
         }
-        for (int i = 0; i < CALLS; i++) {
+        for (int i = 1; calls < CALLS; i++) {
             change();
-            if (i % 5 == 0) {
+            if (i % 10 == 0) {
                 ask();
             }
         }
@@ -133,17 +134,21 @@ public final class ModelTest {
             agree("stood(" + right + ", " + then + ")", () -> docket.stood(right, then),
                 () -> model.stood(right, then));
             agree("covered(" + right + ", " + then + ")", () -> docket.covered(right, then),
-                () -> model.stood(right, then));
+                () -> model.covered(right, then));
         }
     }
 
-    /** Asks only while each argument is from 0 to the bound behind it. */
+    /** Asks only while each argument is from 0 to the bound behind it, and up to the 512th call. */
     private void agree(String call, Call got, Call due, int... argumentsAndBounds) {
         for (int i = 0; i < argumentsAndBounds.length; i += 2) {
             if (argumentsAndBounds[i] < 0 || argumentsAndBounds[i] > argumentsAndBounds[i + 1]) {
                 return;
             }
         }
+        if (calls == CALLS) {
+            return;
+        }
+        calls++;
         Check.same(run + call, told(got), told(due));
     }
 

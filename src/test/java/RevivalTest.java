@@ -147,10 +147,10 @@ public final class RevivalTest {
         Dockets.passTo(docket, 1000);
         docket.revive(0);
         Check.same("gaps", docket.right(0, 9), 2);
-        for (int day = 0; day <= 1000; day++) {
-            boolean due = day <= 366 || day == 1000;
-            Check.same("stood(0, " + day + ")", docket.stood(0, day), due);
-            Check.same("covered(0, " + day + ")", docket.covered(0, day), due);
+        for (int day = 300; day <= 1000; day++) {
+            if (day < 400 || day > 995 || day % 50 < 2) {
+                stands(docket, day, day <= 366 || day == 1000);
+            }
         }
         Check.same("share", docket.share(0), 368.0 / 1001.0);
     }

@@ -103,6 +103,15 @@ public final class StateTest {
 
     // All nineteen years are paid, some by revivals; then other rights take the rows.
     private static void undoRestoresAnsweredValues() {
+        FeeDocket docket = withRevivals();
+        docket.parse();
+        docket.file(true);
+        docket.undo();
+        docket.undo();
+        Check.same("all answers", allOf(docket), allOf(withRevivals()));
+    }
+
+    private static FeeDocket withRevivals() {
         FeeDocket docket = Dockets.withText("49-1-1s;");
         docket.pass(10);
         docket.file(false);
@@ -116,12 +125,7 @@ public final class StateTest {
                 docket.pay(0);
             }
         }
-        String before = allOf(docket);
-        docket.parse();
-        docket.file(true);
-        docket.undo();
-        docket.undo();
-        Check.same("all answers", allOf(docket), before);
+        return docket;
     }
 
     private static String allOf(FeeDocket docket) {
@@ -137,11 +141,12 @@ public final class StateTest {
                 all.append(docket.user(right, user)).append(' ');
             }
             for (int year = 1; year <= 19; year++) {
-                all.append(docket.due(right, year, false)).append(' ');
-                all.append(docket.due(right, year, true)).append(' ');
-            }
-            for (int day = 0; day <= docket.value(0); day++) {
-                all.append(docket.stood(right, day) ? 's' : '-').append(docket.covered(right, day) ? 'c' : '-');
+                int due = docket.due(right, year, false);
+                int grace = docket.due(right, year, true);
+                all.append(due).append(' ').append(grace).append(' ');
+                for (int day : new int[] {due, due + 1, grace + 1, grace + 2}) {
+                    all.append(docket.stood(right, day) ? 's' : '-').append(docket.covered(right, day) ? 'c' : '-');
+                }
             }
             all.append(docket.share(right)).append(' ');
         }

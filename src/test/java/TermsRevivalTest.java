@@ -73,9 +73,10 @@ public final class TermsRevivalTest {
         revivalEnds(docket, 1520, 1886);
     }
 
+    // Four years of filings: some of the years behind the grace have 366 days.
     private static void revivalsEndOfEveryDay() {
         Model calendar = new Model();
-        for (int filed = 0; filed < 366; filed++) {
+        for (int filed = 0; filed < 1461; filed++) {
             FeeDocket docket = Dockets.withRightOn(filed, true);
             int grace = calendar.off(Model.months(filed, 18));
             revivalEnds(docket, grace, calendar.off(Model.months(grace, 12)));

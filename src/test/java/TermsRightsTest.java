@@ -11,6 +11,7 @@ public final class TermsRightsTest {
         holidaysPutDueDaysOff();
         daysAreCountedFromTheFiling();
         shorterMonthsMoveTheirDays();
+        daysOfEveryFiling();
         feeGrowsByTheYear();
         feesAreInitially100And20();
         leastAndGreatestFees();
@@ -170,6 +171,29 @@ public final class TermsRightsTest {
             Check.same("due(" + year + ")", august.due(0, year, false), behindWeekend(august.day(year, 8, 31)));
             Check.same("grace(" + year + ")", august.due(0, year, true),
                 behindWeekend(august.day(year + 1, 2, length)));
+        }
+    }
+
+    // Four years of filings, with six holidays at the ends of months and years.
+    private static void daysOfEveryFiling() {
+        int[] holidays = {101, 228, 229, 630, 701, 1231};
+        Model calendar = new Model();
+        for (int holiday : holidays) {
+            calendar.holiday(holiday / 100, holiday % 100);
+        }
+        for (int filed = 0; filed < 1461; filed++) {
+            FeeDocket docket = new FeeDocket();
+            for (int holiday : holidays) {
+                docket.holiday(holiday / 100, holiday % 100);
+            }
+            Dockets.passTo(docket, filed);
+            docket.file(false);
+            Check.same("the last day of " + filed, docket.right(0, 8), Model.months(filed, 240) - 1);
+            for (int year = 1; year <= 19; year++) {
+                String of = "(" + year + ") of " + filed;
+                Check.same("due" + of, docket.due(0, year, false), calendar.off(Model.months(filed, 12 * year)));
+                Check.same("grace" + of, docket.due(0, year, true), calendar.off(Model.months(filed, 12 * year + 6)));
+            }
         }
     }
 
